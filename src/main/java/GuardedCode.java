@@ -242,10 +242,9 @@ public final class GuardedCode {
 
     public int sweep() {
         int before = program.size;
-        int left = before + 1;
-        for (int round = 0; round <= MOST_INSTRUCTIONS && left != program.size; round++) {
-            left = program.size;
-            program.dropUnread(FreeIfs.liveOnes(program));
+        int went = 1;
+        for (int round = 0; round <= MOST_INSTRUCTIONS && went > 0; round++) {
+            went = program.dropUnread(FreeIfs.liveOnes(program));
         }
         return before - program.size;
     }
@@ -619,8 +618,8 @@ public final class GuardedCode {
             return was;
         }
 
-        /** Each put, add, sub, mul goes that is none of the live ones (bits). */
-        void dropUnread(int liveOnes) {
+        /** Each put, add, sub, mul goes that is none of the live ones (bits): how many went. */
+        int dropUnread(int liveOnes) {
             int left = 0;
             for (int i = 0; i < size; i++) {
                 if (kinds[i] == DIV || kinds[i] == IF || (liveOnes >> i & 1) == 1) {
@@ -628,8 +627,10 @@ public final class GuardedCode {
                     left++;
                 }
             }
+            int went = size - left;
             size = left;
             findIfs();
+            return went;
         }
 
         void move(int from, int onto) {
