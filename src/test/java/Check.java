@@ -3,6 +3,7 @@ final class Check {
     static final int BAD = -1, STATE = -2, FULL = -3, NONE = -4;
     private static int wrong = 0;
     private static int asked = 0;
+    private static String about = "";
 
     private Check() {
     }
@@ -12,7 +13,7 @@ final class Check {
         if (got != want) {
             wrong++;
             if (wrong <= 50) {
-                System.out.println(what + " answered " + got + ", due is " + want);
+                System.out.println(about + what + " answered " + got + ", due is " + want);
             }
         }
     }
@@ -21,8 +22,17 @@ final class Check {
         asked++;
         if (!so) {
             wrong++;
-            System.out.println(what + " does not hold");
+            System.out.println(about + what + " does not hold");
         }
+    }
+
+    /** What is printed ahead of each wrong answer from here on. */
+    static void about(String what) {
+        about = what.isEmpty() ? "" : what + ": ";
+    }
+
+    static int askedOnes() {
+        return asked;
     }
 
     static int wrongOnes() {
@@ -32,8 +42,9 @@ final class Check {
     /** A new object that has been told a text. */
     static GuardedCode told(String text) {
         GuardedCode x = new GuardedCode();
-        int size = tell(x, text);
-        holds("the text \"" + text + "\" is taken", size >= 0);
+        if (tell(x, text) < 0) {
+            holds("that the text \"" + text + "\" is taken", false);
+        }
         return x;
     }
 

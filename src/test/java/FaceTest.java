@@ -120,6 +120,18 @@ public final class FaceTest {
             Check.holds("Arrays." + fills.group(1), List.of("fill", "copyOf", "copyOfRange").contains(fills.group(1)));
         }
         methodsAreShort(source.split("\n"));
+        callsMakeNothing(bare.split("\n"));
+    }
+
+    /** All is made with the object: in what a field begins with, or in the constructor. */
+    private static void callsMakeNothing(String[] lines) {
+        boolean inConstructor = false;
+        for (String line : lines) {
+            inConstructor = line.equals("    public GuardedCode() {") || inConstructor && !line.equals("    }");
+            boolean makes = Pattern.compile("\\bnew\\b|\\.clone\\(|\\.copyOf").matcher(line).find();
+            boolean field = line.matches(" {4}( {4})?(private )?final \\w+(\\[\\])? \\w+ = new .*;");
+            Check.holds("no call makes an object: " + line.trim(), !makes || inConstructor || field);
+        }
     }
 
     private static void methodsAreShort(String[] lines) {

@@ -10,11 +10,13 @@ import java.util.Random;
 public final class OracleTest {
     private static final int BAD = -1, STATE = -2, FULL = -3, NONE = -4;
     private static final int PUT = 0, DIV = 4, IF = 5;
+    /** What an object answers behind its 512th call is free. */
+    private static final int MOST_CALLS = 512, DEAREST = 60;
     private static final String[] WORDS = {"put", "add", "sub", "mul", "div", "if"};
 
     public static void main(String[] args) {
-        for (int seed = 0; seed < 3000 && Check.wrongOnes() == 0; seed++) {
-            new OracleTest(seed).play(400);
+        for (int seed = 0; seed < 15000 && Check.wrongOnes() == 0; seed++) {
+            new OracleTest(seed).play();
         }
         Check.finish();
     }
@@ -73,6 +75,7 @@ public final class OracleTest {
         }
     }
 
+    private int calls = 0;
     private final Random random;
     private final int seed;
     private final GuardedCode x = new GuardedCode();
@@ -703,6 +706,11 @@ public final class OracleTest {
                 default: text.setLength(place);
             }
         }
+        // some more than THE TAPE has room for
+        text.setLength(Math.min(text.length(), 330));
+        if (calls + text.length() + 2 > MOST_CALLS) {
+            return;
+        }
         for (int i = 0; i < text.length(); i++) {
             feed(text.charAt(i));
         }
@@ -718,13 +726,15 @@ public final class OracleTest {
         due("feed", x.feed(c), want);
     }
 
+    /** Each answer is that of one call. */
     private void due(String what, long got, long want) {
+        calls++;
         Check.due("seed " + seed + " " + what, got, want);
     }
 
-    private void play(int calls) {
+    private void play() {
         tell();
-        for (int c = 0; c < calls && Check.wrongOnes() == 0; c++) {
+        while (calls + DEAREST <= MOST_CALLS && Check.wrongOnes() == 0) {
             int what = random.nextInt(24);
             if (what < 2) {
                 ask();

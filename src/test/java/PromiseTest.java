@@ -203,40 +203,36 @@ public final class PromiseTest {
         fault("put a 1;put b 2;put c 300;", 22, 1);
     }
 
-    private static void textLimits() {
-        StringBuilder puts = new StringBuilder();
-        for (int i = 0; i < 24; i++) {
-            puts.append("put a 1;");
-        }
+    /** A text on a new object, as some of these take most of the calls that it is used for. */
+    private static void alone(String what, String text, int want, int fault) {
         GuardedCode x = new GuardedCode();
-        due("4 24 instructions", Check.tell(x, puts.toString()), 24);
-        due("4 the 25th", Check.tell(x, puts + "add"), -10 - 192);
-        due("5 the 25th", x.fault(), 5);
-        due("4 the 25th, an if", Check.tell(x, puts + " if a 1{}{}"), -10 - 193);
-        due("5 the 25th, an if", x.fault(), 5);
-        due("4 a name that begins no stmt ahead of that", Check.tell(x, puts + "foo"), -10 - 192);
-        due("5 a name that begins no stmt ahead of that", x.fault(), 2);
+        due("4 " + what, Check.tell(x, text), want);
+        due("5 " + what, x.fault(), fault);
+    }
+
+    private static void textLimits() {
+        String puts = "put a 1;".repeat(24);
+        alone("24 instructions", puts, 24, 0);
+        alone("the 25th", puts + "add", -10 - 192, 5);
+        alone("the 25th, an if", puts + " if a 1{}{}", -10 - 193, 5);
+        alone("a name that begins no stmt ahead of that", puts + "foo", -10 - 192, 2);
+        GuardedCode x = told(puts);
+        Check.tell(x, puts + "add");
         due("4 stays", x.rule(0), 24);
-        String six = "if a 1{}{}if a 1{}{}if a 1{}{}if a 1{}{}if a 1{}{}if a 1{}{}";
-        due("4 six ifs", Check.tell(x, six), 6);
-        due("4 the 7th if", Check.tell(x, six + "if"), -10 - 60);
-        due("5 the 7th if", x.fault(), 5);
-        due("4 no if behind six", Check.tell(x, six + "put a 1;"), 7);
-        due("4 six within one another", Check.tell(x, DEEP), 7);
-        due("4 the 7th within", Check.tell(x, DEEP.replace("put b 7;", "if a 1{}{}")), -10 - 54);
-        due("5 the 7th within", x.fault(), 5);
+        String six = "if a 1{}{}".repeat(6);
+        alone("six ifs", six, 6, 0);
+        alone("the 7th if", six + "if", -10 - 60, 5);
+        alone("no if behind six", six + "put a 1;", 7, 0);
+        alone("six within one another", DEEP, 7, 0);
+        alone("the 7th within", DEEP.replace("put b 7;", "if a 1{}{}"), -10 - 54, 5);
     }
 
     private static void textBoundsOfTokens() {
-        StringBuilder blanks = new StringBuilder();
-        for (int i = 0; i < 313; i++) {
-            blanks.append(' ');
-        }
-        GuardedCode x = new GuardedCode();
-        due("4 at the end of the tape", Check.tell(x, blanks.substring(1) + "put a 1;"), 1);
-        due("4 a fault at the end of the tape", Check.tell(x, blanks + "put a 1"), -10 - 320);
-        due("4 a V wanted at the end of the tape", Check.tell(x, blanks.substring(0) + "    put"), -10 - 320);
-        due("4 320 blanks", Check.tell(x, blanks + "       "), 0);
+        String blanks = " ".repeat(312);
+        alone("at the end of the tape", blanks + "put a 1;", 1, 0);
+        alone("a fault at the end of the tape", blanks + " put a 1", -10 - 320, 2);
+        alone("a V wanted at the end of the tape", blanks + "     put", -10 - 320, 2);
+        alone("320 blanks", blanks + "        ", 0, 0);
     }
 
     private static void rule() {
